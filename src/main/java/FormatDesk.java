@@ -164,76 +164,36 @@ public final class FormatDesk {
         draft.empty();
         taken = 0;
         int place = 0;
-        for (int step = 0; step < MOST_TYPED && place < tape.size() && faultKind == FINE; step++) {
-            if (startsField(place)) {
-                field.read(tape, place);
-                fillField(place);
-                place = field.next;
-            } else {
-                fillMark(place);
-                place = behindMark(place);
+        for (int step = 0; step < MOST_TYPED && place < tape.size(); step++) {
+            boolean starts = startsField(place) && field.read(tape, place);
+            int kind = starts ? fillField() : fillMark(tape.at(place));
+            if (kind != FINE) {
+                noteFault(kind, place);
+                return;
             }
+            place = starts ? field.next : behindMark(place);
         }
-        if (faultKind == FINE && taken < count) {
+        if (taken < count) {
             noteFault(VALUES_LEFT, tape.size());
         }
     }
 
-    private void fillMark(int place) {
-        if (draft.hasRoom(1)) {
-            draft.add(tape.at(place));
-        } else {
-            noteFault(TOO_LONG, place);
+    private int fillMark(int mark) {
+        if (!draft.hasRoom(1)) {
+            return TOO_LONG;
         }
+        draft.add(mark);
+        return FINE;
     }
 
-    private void fillField(int place) {
-        int kind = takeWidth();
-        if (kind == FINE) {
-            kind = takePrecision();
-        }
-        if (kind == FINE) {
-            kind = takeValue();
-        }
-        if (kind == FINE && !shape.putInto(draft, field)) {
-            kind = TOO_LONG;
+    private int fillField() {
+        int kind = field.starWidth ? takeStar(true) : FINE;
+        if (kind == FINE && field.starPrecision) {
+            kind = takeStar(false);
         }
         if (kind != FINE) {
-            noteFault(kind, place);
+            return kind;
         }
-    }
-
-    private int takeWidth() {
-        if (!field.starWidth) {
-            return FINE;
-        }
-        Value star = takeNext();
-        if (star == null) {
-            return NO_VALUE;
-        }
-        if (!star.isStar()) {
-            return WRONG_SORT;
-        }
-        field.giveWidth((int) star.wholePart());
-        return FINE;
-    }
-
-    private int takePrecision() {
-        if (!field.starPrecision) {
-            return FINE;
-        }
-        Value star = takeNext();
-        if (star == null) {
-            return NO_VALUE;
-        }
-        if (!star.isStar()) {
-            return WRONG_SORT;
-        }
-        field.givePrecision((int) star.wholePart());
-        return FINE;
-    }
-
-    private int takeValue() {
         Value value = takeNext();
         if (value == null) {
             return NO_VALUE;
@@ -242,6 +202,23 @@ public final class FormatDesk {
             return WRONG_SORT;
         }
         shape.form(value, field);
+        return shape.putInto(draft, field) ? FINE : TOO_LONG;
+    }
+
+    private int takeStar(boolean forWidth) {
+        Value star = takeNext();
+        if (star == null) {
+            return NO_VALUE;
+        }
+        if (!star.isStar()) {
+            return WRONG_SORT;
+        }
+        int number = (int) star.wholePart();
+        if (forWidth) {
+            field.giveWidth(number);
+        } else {
+            field.givePrecision(number);
+        }
         return FINE;
     }
 
@@ -299,13 +276,13 @@ public final class FormatDesk {
             }
         }
 
-        boolean isDigit(int i) {
-            return at(i) >= '0' && at(i) <= '9';
+        private static boolean isDigit(int mark) {
+            return mark >= '0' && mark <= '9';
         }
 
         int digitsFrom(int start) {
             int many = 0;
-            for (int i = start; i < length && isDigit(i); i++) {
+            for (int i = start; i < length && isDigit(at(i)); i++) {
                 many++;
             }
             return many;
@@ -645,9 +622,9 @@ public final class FormatDesk {
             return row[kept - 1] % 2 == 1;
         }
 
-        /** Digits from start to ahead of the point, which comes with places or if it must, then the places. */
-        void put(Line to, int start, int point, int places, boolean mustPoint) {
-            for (int i = start; i < point; i++) {
+        /** The digits with the point ahead of that one of the row; it comes with places, or if it must. */
+        void put(Line to, int point, int places, boolean mustPoint) {
+            for (int i = Math.min(first(), point - 1); i < point; i++) {
                 to.add(digitAt(i));
             }
             if (places > 0 || mustPoint) {
@@ -750,12 +727,7 @@ public final class FormatDesk {
             sign = field.signFor(value.below);
             digits.load(value);
             digits.round(Digits.AHEAD + places);
-            putPlaces(places, field.sharp);
-        }
-
-        private void putPlaces(int places, boolean mustPoint) {
-            int start = Math.min(digits.first(), Digits.ONES);
-            digits.put(body, start, Digits.AHEAD, places, mustPoint);
+            digits.put(body, Digits.AHEAD, places, field.sharp);
         }
 
         private void formExponent(Value value, Field field) {
@@ -763,13 +735,8 @@ public final class FormatDesk {
             sign = field.signFor(value.below);
             digits.load(value);
             digits.round(digits.first() + 1 + places);
-            putOneAhead(places, field.sharp);
+            digits.put(body, digits.first() + 1, places, field.sharp);
             putExponent(field.letter);
-        }
-
-        private void putOneAhead(int places, boolean mustPoint) {
-            int start = digits.first();
-            digits.put(body, start, start + 1, places, mustPoint);
         }
 
         private void putExponent(int mark) {
@@ -789,11 +756,8 @@ public final class FormatDesk {
             int exponent = digits.exponent();
             boolean far = exponent < -4 || exponent >= most;
             int places = far ? most - 1 : most - 1 - exponent;
-            if (far) {
-                putOneAhead(places, field.sharp);
-            } else {
-                putPlaces(places, field.sharp);
-            }
+            int point = far ? digits.first() + 1 : Digits.AHEAD;
+            digits.put(body, point, places, field.sharp);
             if (!field.sharp) {
                 body.dropZeros(places);
             }

@@ -41,9 +41,10 @@ public final class AlikeTest {
         }
         clerk.desk.clear();
         DUE.same("none behind clear()", clerk.desk.alike(0, 1), false);
-        clerk.put("2").decimal();
+        clerk.put("1").decimal();
         DUE.same("one again", clerk.desk.alike(0, 0), true);
         DUE.same("no second one", clerk.desk.alike(0, 1), false);
+        DUE.same("no second one ahead", clerk.desk.alike(1, 0), false);
     }
 
     private static void rowOfTwelve() {

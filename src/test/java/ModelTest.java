@@ -49,6 +49,14 @@ public final class ModelTest {
         return values.size() < 12 && random.nextInt(60) != 0;
     }
 
+    /** So wide that seven of them are too long. */
+    private String wideField() {
+        if (room()) {
+            give(false, decimal());
+        }
+        return "%" + some("-+0# ", 0, 3) + some("9", 1, 1) + some("0123456789", 1, 1) + some("dxob", 1, 1);
+    }
+
     /** A FIELD, mostly a right one, and the VALUES it takes, mostly. */
     private String field() {
         String width = random.nextInt(3) == 0 ? "*" : random.nextInt(2) == 0 ? "" : some("123456789", 1, 2);
@@ -84,8 +92,9 @@ public final class ModelTest {
     private String pattern() {
         StringBuilder all = new StringBuilder(some("ab |", 0, 3));
         int fields = random.nextInt(random.nextInt(3) == 0 ? 14 : 4);
+        boolean wide = random.nextInt(5) == 0;
         for (int i = 0; i < fields && all.length() < 180; i++) {
-            all.append(field()).append(random.nextInt(4) == 0 ? "%%" : some("x,", 0, 2));
+            all.append(wide ? wideField() : field()).append(random.nextInt(4) == 0 ? "%%" : some("x,", 0, 2));
         }
         return all.substring(0, Math.min(all.length(), random.nextInt(400) == 0 ? random.nextInt(9) : 200));
     }
