@@ -19,8 +19,9 @@ public final class FormatDesk {
     private static final int TOO_LONG = 5;
 
     private final Line tape = new Line(MOST_TYPED);
-    // One row more than there may be values: what is read before it is known to count is read there.
-    private final Value[] values = new Value[MOST_VALUES + 1];
+    private final Value[] values = new Value[MOST_VALUES];
+    // With 12 values the tape is still looked at, whether it is a decimal: it is read here then.
+    private final Value spare = new Value();
     private final Field field = new Field();
     private final Shape shape = new Shape();
     // Two lines that change places, so that a pattern with a fault leaves what was filled last.
@@ -65,7 +66,8 @@ public final class FormatDesk {
     }
 
     public int decimal() throws IllegalArgumentException, IllegalStateException {
-        boolean reads = values[count].readDecimal(tape);
+        Value next = count < MOST_VALUES ? values[count] : spare;
+        boolean reads = next.readDecimal(tape);
         tape.empty();
         if (!reads) {
             throw new IllegalArgumentException("the tape is no decimal");

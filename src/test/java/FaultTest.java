@@ -21,6 +21,7 @@ public final class FaultTest {
         }
         faults("1@2", "%%%", "1");
         faults("1@0", "%y%y");
+        faults("1@199", "x".repeat(199) + "%");
     }
 
     /** A FIELD that is none counts ahead of all that the filling would find. */

@@ -85,7 +85,8 @@ public final class ModelTest {
         if (random.nextInt(80) == 0 || words && random.nextBoolean()) {
             give(true, some("ab\"\\ %5", letter == 'c' ? 1 : 0, letter == 'c' ? 1 : random.nextInt(5) == 0 ? 60 : 8));
         } else {
-            give(false, letter == 'c' ? random.nextInt(10) == 0 ? decimal() : 32 + random.nextInt(95) + ".9" : decimal());
+            boolean mark = letter == 'c' && random.nextInt(10) != 0;
+            give(false, mark ? 32 + random.nextInt(95) + ".9" : decimal());
         }
     }
 
