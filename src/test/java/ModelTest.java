@@ -116,7 +116,7 @@ public final class ModelTest {
 
     private void go() {
         String pattern = pattern();
-        DUE.same(pattern + " of " + tapes, clerk.filled(pattern), outer(Model.fill(pattern, values)));
+        DUE.same(pattern + " of " + tapes, clerk.filled(pattern), outer(Model.fill(pattern, values).words()));
         alike();
         DUE.same("clear()", clerk.desk.clear(), values.size());
     }

@@ -68,17 +68,25 @@ final class Clerk {
     /** What was filled last: all of it, or the first and the last 150 characters, to stay below 512 calls. */
     String filled() {
         int many = desk.letters();
+        return many <= 300 ? part(0, many) : part(0, 150) + part(many - 150, many);
+    }
+
+    private String part(int start, int end) {
         StringBuilder all = new StringBuilder();
-        for (int i = 0; i < many; i++) {
-            if (i < 150 || i >= many - 150) {
-                all.append((char) desk.letter(i));
-            }
+        for (int i = start; i < end; i++) {
+            all.append((char) desk.letter(i));
         }
         return all.toString();
     }
 
     /** What the pattern answers: the text that comes of it, or its fault as kind@place. */
     String filled(String pattern) {
+        String answer = answerOf(pattern);
+        return answer.isEmpty() ? filled() : answer;
+    }
+
+    /** Empty if a text comes of it whose length all calls tell alike. */
+    private String answerOf(String pattern) {
         String answer = put(pattern).fill();
         if (answer.equals("throws.IllegalArgumentException")) {
             return fault();
@@ -86,6 +94,39 @@ final class Clerk {
         if (!answer.equals(String.valueOf(desk.letters())) || !fault().equals("0@0")) {
             return "fill() " + answer + ", letters() " + desk.letters() + ", fault " + fault();
         }
-        return filled();
+        return "";
+    }
+
+    /** As filled(pattern), but the whole text: with a second object, as one is used for 512 calls at most. */
+    static String all(String pattern, String... values) {
+        Clerk one = with(values);
+        Clerk other = with(values);
+        String answer = one.answerOf(pattern);
+        String again = other.answerOf(pattern);
+        if (!answer.isEmpty() || !again.isEmpty()) {
+            return answer.equals(again) ? answer : answer + " and " + again;
+        }
+        int many = one.desk.letters();
+        int half = Math.min(300, many);
+        return one.part(0, half) + other.part(half, many);
+    }
+
+    /** All that can be told of the object; the tape and the VALUES are used up by it. */
+    String state() {
+        String seen = "fault " + fault() + ", filled " + desk.letters() + " [" + filled() + "]";
+        String tape = text();
+        if (tape.equals("-1")) {
+            tape = fill() + " " + fault() + " [" + filled() + "]";
+        }
+        return seen + ", tape " + tape + ", values " + values() + ", clear " + desk.clear();
+    }
+
+    private String values() {
+        for (int many = 0; many <= 12; many++) {
+            if (!put("%q".repeat(many)).fill().startsWith("throws.")) {
+                return filled();
+            }
+        }
+        return "not to be filled";
     }
 }

@@ -30,14 +30,24 @@ final class Model {
         }
     }
 
-    /** The text that comes of it, or the fault as kind@place. */
-    static String fill(String pattern, List<Object> values) {
-        Model model = new Model(pattern, values);
-        String fault = model.walk(false);
-        return fault != null ? fault : (fault = model.walk(true)) != null ? fault : model.out.toString();
+    /** The text that comes of it, which is null if there is a fault. */
+    record Answer(int kind, int place, String text) {
+        /** The text, or the fault as kind@place. */
+        String words() {
+            return text == null ? kind + "@" + place : text;
+        }
     }
 
-    private String walk(boolean filling) {
+    static Answer fill(String pattern, List<Object> values) {
+        Model model = new Model(pattern, values);
+        Answer fault = model.walk(false);
+        if (fault == null) {
+            fault = model.walk(true);
+        }
+        return fault == null ? new Answer(0, 0, model.out.toString()) : fault;
+    }
+
+    private Answer walk(boolean filling) {
         Matcher field = FIELD.matcher(pattern);
         int place = 0;
         while (place < pattern.length()) {
@@ -47,22 +57,22 @@ final class Model {
                 end++;
             } else if (more.equals("%")) {
                 if (!field.region(place, pattern.length()).lookingAt()) {
-                    return "1@" + place;
+                    return new Answer(1, place, null);
                 }
                 end = field.end();
                 try {
                     more = filling ? one(field) : "";
                 } catch (Fault fault) {
-                    return fault.kind + "@" + place;
+                    return new Answer(fault.kind, place, null);
                 }
             }
             out.append(filling ? more : "");
             if (out.length() > 600) {
-                return "5@" + place;
+                return new Answer(5, place, null);
             }
             place = end;
         }
-        return filling && taken < values.size() ? "4@" + place : null;
+        return filling && taken < values.size() ? new Answer(4, place, null) : null;
     }
 
     private Object take() throws Fault {
