@@ -30,7 +30,7 @@ public final class CallBoundsTest {
     }
 
     private static void newObject() {
-        DUE.sentence("FormatDesk(): No VALUES; no PATTERN was filled.");
+        DUE.sentence("No VALUES; no PATTERN was filled.");
         DUE.same("clear()", new FormatDesk().clear(), 0);
         DUE.same("letters()", new FormatDesk().letters(), FormatDesk.NONE);
         DUE.same("letter(0)", new Clerk().letter(0), NO_ELEMENT);
@@ -185,6 +185,21 @@ public final class CallBoundsTest {
         DUE.same("the tape", clerk.filled(""), "tape");
     }
 
+    /** What stood in the row before must not show in what stands there now. */
+    private static void clearedRowAgain() {
+        DUE.sentence("All VALUES go");
+        Clerk clerk = Clerk.with("-12.5", "'a long text", "'x", "-7");
+        clerk.desk.clear();
+        DUE.same("a TEXT for a DECIMAL", clerk.put("ab").text(), "1");
+        DUE.same("a DECIMAL for a TEXT", clerk.put("3").decimal(), "2");
+        DUE.same("an empty TEXT for a TEXT", clerk.text(), "3");
+        DUE.same("a DECIMAL for a DECIMAL", clerk.put("0").decimal(), "4");
+        DUE.same("as words", clerk.filled("[%s] [%s] [%s] [%s]"), "[ab] [3] [] [0]");
+        DUE.same("as numbers", clerk.filled("%s %+.1f%s %+d"), "ab +3.0 +0");
+        DUE.same("a TEXT is no DECIMAL now", clerk.filled("%d%d%s%d"), "3@0");
+        DUE.same("nor of one character", clerk.filled("%s%d%c%d"), "3@4");
+    }
+
     private static void fillAnswers() {
         DUE.sentence("The tape (which is empty then in any case) is a PATTERN, filled with the VALUES (which stay)");
         Clerk clerk = Clerk.with("-1.50", "'te\"xt");
@@ -337,6 +352,13 @@ public final class CallBoundsTest {
         DUE.same("alike(12, 12)", twelve.desk.alike(12, 12), false);
         twelve.desk.clear();
         DUE.same("behind clear()", twelve.desk.alike(0, 0), false);
+        Clerk gone = Clerk.with("1", "1", "1");
+        gone.desk.clear();
+        gone.put("1").decimal();
+        gone.put("1").decimal();
+        DUE.same("two that are there", gone.desk.alike(0, 1), true);
+        DUE.same("one that went", gone.desk.alike(0, 2), false);
+        DUE.same("one that went ahead", gone.desk.alike(2, 1), false);
         DUE.same("of a new object", new FormatDesk().alike(0, 0), false);
     }
 
@@ -391,6 +413,7 @@ public final class CallBoundsTest {
         decimalIsAValueMore();
         decimalRefused();
         clearAnswers();
+        clearedRowAgain();
         fillAnswers();
         fillRefused();
         faultAnswers();

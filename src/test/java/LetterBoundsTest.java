@@ -287,7 +287,7 @@ public final class LetterBoundsTest {
     }
 
     private static void signBelowZero() {
-        DUE.sentence("SIGNS: - if the VALUE (of d, x, X, o, b its WHOLE part) is below 0");
+        DUE.sentence("- if the VALUE (of d, x, X, o, b its WHOLE part) is below 0");
         String[] least = {"-" + LEAST, "-" + LEAST, "-" + LEAST, "-" + LEAST, "-" + LEAST};
         DUE.fills("0 0 0 0 0", "%d %x %X %o %b", least);
         DUE.fills("+0 +0 +0 +0 +0", "%+d %+x %+X %+o %+b", least);

@@ -70,6 +70,24 @@ public final class PatternBoundsTest {
         DUE.fills("1@0", "%_d", "42");
     }
 
+    private static void eachFieldForItself() {
+        DUE.sentence("Else FLAGS");
+        DUE.fills("042| 42", "%03d|%3d", "42", "42");
+        DUE.fills("42 | 42", "%-3d|%3d", "42", "42");
+        DUE.fills("+42|42", "%+d|%d", "42", "42");
+        DUE.fills(" 42|42", "% d|%d", "42", "42");
+        DUE.fills("0x2a|2a", "%#x|%x", "42", "42");
+        DUE.fills(" 42|42", "%3d|%d", "42", "42");
+        DUE.fills("042|42", "%.3d|%d", "42", "42");
+        DUE.fills(" 42|42", "%*d|%d", "3", "42", "42");
+        DUE.fills("042|42", "%.*d|%d", "3", "42", "42");
+        DUE.fills("42 | 42", "%*d|%3d", "-3", "42", "42");
+        DUE.fills("-42|42", "%d|%d", "-42", "42");
+        DUE.fills("0x2a|a", "%#x|%s", "42", "'a");
+        DUE.fills("-42|a", "%d|%c", "-42", "'a");
+        DUE.fills("042|a", "%.3d|%s", "42", "'a");
+    }
+
     private static void flagsInAnyOrder(String flags, String rest) {
         if (rest.isEmpty()) {
             DUE.fills("+0x2a  |", "%" + flags + "7x|", "42");
@@ -198,7 +216,8 @@ public final class PatternBoundsTest {
         charactersForThemselves();
         twoPercents();
         eachFlagOnceOrMore();
-        DUE.sentence("FLAGS (any of - + 0 # and blank)");
+        eachFieldForItself();
+        DUE.sentence("any of - + 0 # and blank");
         flagsInAnyOrder("", "-+0# ");
         widthToNinetyNine();
         precisionOfOneOrTwoDigits();
