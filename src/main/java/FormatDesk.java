@@ -738,11 +738,10 @@ public final class FormatDesk {
             digits.load(value);
             digits.round(digits.first() + 1 + places);
             digits.put(body, digits.first() + 1, places, field.sharp);
-            putExponent(field.letter);
+            putExponent(field.letter, digits.exponent());
         }
 
-        private void putExponent(int mark) {
-            int exponent = digits.exponent();
+        private void putExponent(int mark, int exponent) {
             int size = Math.abs(exponent);
             body.add(mark);
             body.add(exponent < 0 ? '-' : '+');
@@ -764,7 +763,7 @@ public final class FormatDesk {
                 body.dropZeros(places);
             }
             if (far) {
-                putExponent(field.letter == 'G' ? 'E' : 'e');
+                putExponent(field.letter == 'G' ? 'E' : 'e', exponent);
             }
         }
 

@@ -32,8 +32,20 @@ public final class FaceTest {
         return seen;
     }
 
+    /** By rule 1 of LANGUAGE.md there are none. */
+    private static Set<String> hiddenWithPublicName() {
+        Set<String> open = new TreeSet<>();
+        Set<String> hidden = new TreeSet<>();
+        for (Method m : FormatDesk.class.getDeclaredMethods()) {
+            (Modifier.isPublic(m.getModifiers()) ? open : hidden).add(m.getName());
+        }
+        hidden.retainAll(open);
+        return hidden;
+    }
+
     public static void main(String[] args) {
         Due due = new Due();
+        due.same("private methods with a public one's name", hiddenWithPublicName(), Set.of());
         due.same("the face", seen(), new TreeSet<>(Set.of(
             "public static final int NONE",
             "public FormatDesk()",
